@@ -757,12 +757,19 @@ public final class ChalkWars {
             return 0;
         }
         int kind = city.get(h, KIND_OF);
-        Thing thing = kind < things.length ? things[kind] : null;
-        if (thing == null) {
+        latest = kind >= 0 && kind < things.length ? things[kind] : null;
+        if (latest == null) {
             return 0;
         }
-        latest = thing;
-        return thing.does(act, x, h, city.get(h, CHALK_OF));
+        latest.standFor(h, city.get(h, CHALK_OF));
+        int answer;
+        switch (act) {
+            case 0: answer = latest.chalks(x); break;
+            case 1: answer = latest.shouts(x); break;
+            case 2: answer = latest.parts(x); break;
+            default: answer = latest.wins(x); break;
+        }
+        return latest.parted ? PARTED_BY_NONE : answer;
     }
 
     public int trace(int i) {
@@ -933,7 +940,7 @@ public final class ChalkWars {
         /** A DUSK's other parts: the CELLS that are SHUT behind it. */
         private int settle(int told) {
             if (told >= 0 && told < count) {
-                obey(told);
+                obey(told, willOf(told));
             }
             if ((rain >> dusk & 1) != 0) {
                 lines &= dry;
@@ -944,8 +951,7 @@ public final class ChalkWars {
             return shut;
         }
 
-        private void obey(int h) {
-            int will = willOf(h);
+        private void obey(int h, int will) {
             if (will == REST) {
                 return;
             }
@@ -1534,7 +1540,7 @@ public final class ChalkWars {
         }
     }
 
-    /** A HAND held as a thing; one of each KIND is made once, and told number and CHALK ahead of each act. */
+    /** A HAND held as a thing; one of each KIND is made once, and stands for one HAND after another. */
     private abstract static class Thing {
         private final int[] bodies = new int[MOST_BODIES];
         private int begun;
@@ -1542,22 +1548,11 @@ public final class ChalkWars {
         int number;
         int chalk;
 
-        private int does(int act, int x, int handNumber, int handChalk) {
+        private void standFor(int handNumber, int handChalk) {
             begun = 0;
             parted = false;
             number = handNumber;
             chalk = handChalk;
-            int answer = doesOne(act, x);
-            return parted ? PARTED_BY_NONE : answer;
-        }
-
-        private int doesOne(int act, int x) {
-            switch (act) {
-                case 0: return chalks(x);
-                case 1: return shouts(x);
-                case 2: return parts(x);
-                default: return wins(x);
-            }
         }
 
         /** Once it was parted by 0 no more bodies run: nothing but that is answered. */

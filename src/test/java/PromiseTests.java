@@ -301,6 +301,21 @@ public final class PromiseTests {
         rulesDue("hand if 1==1 draw;", -110);
         rulesDue("hand if 1=1=1 draw;", -111);
         rulesDue("hand if 1=1 and draw;", -116);
+        rulesDue("hand if 1=1 or draw;", -115);
+        rulesDue("hand if 1(1 draw;", -109);
+        rulesDue("hand if >1=1 draw;", -108);
+        rulesDue("hand if (1=1; draw;", -112);
+        rulesDue("hand draw)", -109);
+        rulesDue("handz draw;", -100);
+        rulesDue("ahand draw;", -100);
+        rulesDue("han draw;", -100);
+        rulesDue(" ".repeat(199) + ";", -299);
+        rulesDue("hand draw;" + " ".repeat(190), 1);
+        ChalkWars x = new ChalkWars();
+        rulesOf(x, "hand if 12345");
+        due("what stood on the tape is gone: numbers", rulesOf(x, "hand if 1234"), -112);
+        rulesOf(x, "hand drawn");
+        due("what stood on the tape is gone: names", rulesOf(x, "hand draw"), -109);
         rulesDue("hand if 1=1 or and 2=2 draw;", -115);
         rulesDue("hand if 1=1 not 2=2 draw;", -112);
         rulesDue("hand if not draw;", -112);
@@ -344,11 +359,23 @@ public final class PromiseTests {
         String[] holds = {"dusk=0", "at=5", "facing=2", "chalk=3", "number=0", "at>facing", "facing<chalk", "not at=4",
             "not not at=5", "at=4 or at=5", "at=5 or at=4", "at=5 and chalk=3", "at=5 or at=5 and at=4", "at=4 and at=5 or at=5",
             "not (at=5 and at=4)", "not at=4 and at=5", "(at=4 or at=5) and (chalk=3)", "0003=3", "9999>9998",
-            "at=5 and at=5 and at=5", "at=4 or at=4 or at=5", "not (at=4 or not (chalk=3))"};
+            "at=5 and at=5 and at=5", "at=4 or at=4 or at=5", "not (at=4 or not (chalk=3))",
+            "not 0<0", "at=5 and not 0<0", "0=0", "0<1", "12>9", "99<100", "1000>999", "0012=12", "1234=1234", "not 1234=1233"};
         for (String condition : holds) due(condition, willBy("child if " + condition + " rub;", 1, 5, 2, 3), 2);
         String[] doesNot = {"dusk>0", "at<5", "at>5", "chalk<3", "at=4 or at=6", "at=5 and at=4", "not at=5", "not not at=4",
             "at=5 and at=4 or at=4", "not (at=5)", "not at=5 or at=4", "(at=4 or at=5) and at=4", "at=5 and at=5 and at=4"};
         for (String condition : doesNot) due(condition, willBy("child if " + condition + " rub;", 1, 5, 2, 3), 0);
+        due("at 11", willBy("child if at=11 rub;", 1, 11, 0, 3), 2);
+        due("at 10", willBy("child if at=11 rub;", 1, 10, 0, 3), 0);
+        due("the second by what it asks alone", willBy("child if at=5 and at=4 rest;child if chalk=4 or facing=2 rub;", 1, 5, 2, 3), 2);
+        ChalkWars none = new ChalkWars();
+        rulesOf(none, "hand rub;");
+        none.set(2, 131071);
+        due("no hand is told: nothing is rubbed", none.dusk(), 11);
+        none.sheet(0, 0, 1);
+        none.hand(1, 0, 0, 9);
+        due("nor by none of one", none.goAll(0, 0, 1), 11);
+        due("lines", none.state(6), 131071);
         ChalkWars x = new ChalkWars();
         x.hand(1, 5, 0, 9);
         x.hand(1, 9, 0, 9);
@@ -494,6 +521,14 @@ public final class PromiseTests {
         due("when 12", x.when(12), BAD);
         due("asking changes nothing", x.state(0), 0);
         due("nor hands", x.handOf(0, 1), 1);
+        ChalkWars late = new ChalkWars();
+        late.hand(1, 0, 0, 9);
+        late.set(2, 1 << 1 | 1 << 9 | 1 << 10);
+        rulesOf(late, "hand if dusk<15 rest;");
+        late.set(0, 15);
+        due("not by the fifteenth", late.when(1), NONE);
+        late.set(0, 16);
+        due("by the sixteenth", late.when(1), 15);
         x.set(0, 1);
         due("when, too late", x.when(5), NONE);
         x.set(0, 12);
@@ -506,7 +541,23 @@ public final class PromiseTests {
         due("on, over", x.on(5), 0);
     }
 
+    /** A mother that walks the upper row's length and draws below it. */
+    private static ChalkWars fenced() {
+        ChalkWars x = new ChalkWars();
+        x.hand(3, 3, 3, 9);
+        x.set(0, 4);
+        return x;
+    }
+
     private static void chalkForAndFacingFor() {
+        due("four draws", fenced().chalkFor(0), 8);
+        due("and what they are worth", fenced().on(4), 8);
+        ChalkWars nine = fenced();
+        rulesOf(nine, "mother if dusk=0 and chalk<9 rest;");
+        due("no less than 9", nine.chalkFor(0), 9);
+        ChalkWars ten = fenced();
+        rulesOf(ten, "mother if dusk=0 and chalk<10 rest;");
+        due("no more than 9", ten.chalkFor(0), 0);
         ChalkWars x = besieged();
         due("chalk", x.chalkFor(0), 6);
         due("facing", x.facingFor(0), 2);
@@ -646,6 +697,10 @@ public final class PromiseTests {
     }
 
     private static void siegeAndBars() {
+        due("siege by four", fenced().siege(4, 4080), 4);
+        due("siege by three", fenced().siege(3, 16), NONE);
+        due("bars by three", fenced().bars(3, 4080), 4);
+        due("bars by four", fenced().bars(4, 4095), 0);
         ChalkWars x = besieged();
         due("siege of none", x.siege(0, 0), 0);
         due("siege by one", x.siege(1, 2), NONE);
@@ -680,16 +735,16 @@ public final class PromiseTests {
         ChalkWars x = besieged();
         int[] game = {0, 0, 11, 22}, play = {0, 0, 0, 0};
         for (int n = 1; n <= 4; n++) {
-            due("game " + n, x.game(n), game[n - 1]);
             due("play " + n, x.play(n), play[n - 1]);
+            due("game " + n, x.game(n), game[n - 1]);
         }
         due("game 0", x.game(0), BAD);
         due("game 5", x.game(5), BAD);
         due("play 0", x.play(0), BAD);
         due("play 5", x.play(5), BAD);
         x.dusk();
-        due("who begins draws the second", x.game(1), 11);
-        due("by the hand", x.play(1), 1);
+        due("who begins draws the second", x.play(1), 1);
+        due("that is worth", x.game(1), 11);
         due("and it stays", x.game(2), 22);
         x.hand(5, 5, 3, 0);
         due("the other one has a dog", x.game(2), 11);
@@ -813,6 +868,10 @@ public final class PromiseTests {
         due("all are worth 132", x.times(40, 132), 40);
         due("none is worth 133", x.times(40, 133), 0);
         due("999", x.times(40, 999), 0);
+        due("one time", x.times(1, 132), 1);
+        x.set(0, 16);
+        due("all of sixteen dusks", x.times(3, 176), 3);
+        due("and no more", x.times(3, 177), 0);
         x.set(0, 1);
         x.dusk();
         due("over: worth 0", x.times(7, 0), 7);
@@ -918,7 +977,7 @@ public final class PromiseTests {
         due("item sort -1", x.item(0, -1, 0), BAD);
         due("item sort 5", x.item(0, 5, 0), BAD);
         due("a row anew", x.sheet(0, 2, 3), 1);
-        due("all 0", x.item(0, 2, 2), 0);
+        for (int i = 0; i < 3; i++) due("all 0", x.item(0, 2, i), 0);
         due("no more than 3", x.item(0, 2, 3), -12);
         due("missing again", x.sheet(0, -1, 3), 1);
         due("item missing", x.item(0, 1, 0), -11);
@@ -1221,6 +1280,14 @@ public final class PromiseTests {
         due("dusk again", x.state(0), 1);
         due("chalk again", x.handOf(0, 3), 6);
         due("z again", x.seed(0), 77);
+        ChalkWars scored = new ChalkWars();
+        scored.set(2, 513);
+        scored.dusk();
+        scored.keep();
+        scored.dusk();
+        due("score then", scored.state(2), 22);
+        scored.again();
+        due("score again", scored.state(2), 11);
         x.anew();
         due("kept latest", x.keep(), 1);
         x.dusk();

@@ -204,7 +204,7 @@ public final class RandomRunsTest {
     private String value() {
         if (random.nextInt(3) > 0) return oneOf("dusk", "at", "facing", "chalk", "number");
         if (random.nextInt(12) == 0) return oneOf("9999", "10000", "0005", "00005");
-        return Integer.toString(random.nextInt(8));
+        return Integer.toString(random.nextInt(random.nextInt(4) == 0 ? 120 : 8));
     }
 
     private void spoil(StringBuilder text) {
