@@ -167,6 +167,7 @@ public final class PromiseTests {
         due("remake no hand", x.remake(1, 1), BAD);
         due("remake 0", x.remake(0, 0), BAD);
         due("remake 6", x.remake(0, 6), BAD);
+        due("remake to what it is", x.remake(0, 1), 1);
         due("remake 5", x.remake(0, 5), 1);
         due("remake 1", x.remake(0, 1), 5);
         due("remade", x.handOf(0, 0), 1);
