@@ -58,18 +58,8 @@ public final class PromiseTests {
         if (failed > 0) System.exit(1);
     }
 
-    private static void tell(ChalkWars x, String text) {
-        for (int i = 0; i < text.length(); i += 8) {
-            long eight = 0;
-            int n = Math.min(8, text.length() - i);
-            for (int k = 0; k < n; k++) eight |= (long) (text.charAt(i + k) & 255) << 8 * k;
-            x.feed(eight, n);
-        }
-    }
-
     private static int rulesOf(ChalkWars x, String text) {
-        tell(x, text);
-        return x.rules();
+        return Sentences.rulesOf(x, text);
     }
 
     private static void rulesDue(String text, int want) {
@@ -1127,6 +1117,7 @@ public final class PromiseTests {
             due("mother chalks " + v, actBy(3, n, a, 0, v), v + 2 ^ 7);
             due("mother shouts " + v, actBy(3, n, a, 1, v), (v + 2 ^ 7) - 7 ^ v);
             due("mother wins " + v, actBy(3, n, a, 3, v), ((v + 2 ^ 7) - 7 ^ v) * 2 + v % 5 - ((9 ^ 7) - 7 ^ 7));
+            due("mother with less chalk wins " + v, actBy(3, n, 6, 3, v), ((v + 2 ^ 7) - 6 ^ v) * 2 + v % 4 - ((8 ^ 7) - 6 ^ 6));
             due("rubber chalks " + v, actBy(4, n, a, 0, v), v ^ 7);
             due("rubber parts " + v, actBy(4, n, a, 2, v), v % 5 - 2);
             due("rubber wins " + v, actBy(4, n, a, 3, v), ((v ^ 7) - 7) * 2 + v % 5 - 2);

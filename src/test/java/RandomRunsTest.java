@@ -70,13 +70,18 @@ public final class RandomRunsTest {
         }
     }
 
-    /** Mostly as told, and now and then just beside it. */
-    private int upTo(int most) {
-        return random.nextInt(14) == 0 ? (random.nextBoolean() ? -1 : most + 1) : random.nextInt(most + 1);
+    /** Mostly as told, and now and then just beside it, or as far off as an int goes. */
+    private int from(int least, int most) {
+        switch (random.nextInt(70)) {
+            case 0: case 1: return least - 1;
+            case 2: case 3: return most + 1;
+            case 4: return random.nextBoolean() ? Integer.MIN_VALUE : Integer.MAX_VALUE;
+            default: return least + random.nextInt(most - least + 1);
+        }
     }
 
-    private int from(int least, int most) {
-        return least + upTo(most - least);
+    private int upTo(int most) {
+        return from(0, most);
     }
 
     private int any() {
